@@ -657,7 +657,7 @@ public final class FewerSteps {
                     due = DUE_SECOND;
                     return first != NONE;
                 case DUE_SECOND:
-                    return takesLast(act, first, operandOf(sign), operandOf(sign));
+                    return endsStep(act, first, operandOf(sign));
                 default:
                     return takesMore(sign);
             }
@@ -669,11 +669,11 @@ public final class FewerSteps {
                 due = DUE_FIRST;
                 return true;
             }
-            return takesLast(NONE, operandOf(sign), NONE, operandOf(sign));
+            return endsStep(NONE, operandOf(sign), NONE);
         }
 
-        private boolean takesLast(int sign, int one, int two, int last) {
-            if (last == NONE) {
+        private boolean endsStep(int sign, int one, int two) {
+            if (one == NONE || sign != NONE && two == NONE) {
                 return false;
             }
             Code side = inRight ? right : left;
@@ -1551,8 +1551,11 @@ public final class FewerSteps {
 
         private boolean reachesBy(int depth, int most, int target, int move) {
             Rows here = stages[depth];
-            int told = makeMove(here, target, move);
-            moves[depth] = told;
+            int kind = move / 100;
+            int first = kind == 0 ? DIGIT : kind == 1 ? 1 - target : move / 10 % 10;
+            int second = move % 10 == 2 ? DIGIT + 1 : move % 10;
+            here.make(kind < 2 ? NONE : ACTS[kind - 2], first, second);
+            moves[depth] = 1000 * target + move + (kind == 1 ? 10 * first : 0);
             if (depth == most - 1) {
                 return here.hasMade(target, goal);
             }
@@ -1562,25 +1565,6 @@ public final class FewerSteps {
             stages[depth + 1].copyFrom(here);
             here.storeMade(target, stages[depth + 1]);
             return reaches(depth + 1, most);
-        }
-
-        /** Makes what a move makes: the number by which shortest() tells it. */
-        private static int makeMove(Rows here, int target, int move) {
-            int kind = move / 100;
-            int first = move / 10 % 10;
-            int second = move % 10;
-            if (kind == 0) {
-                here.make(NONE, DIGIT, NONE);
-                return 1000 * target;
-            }
-            if (kind == 1) {
-                here.make(NONE, 1 - target, NONE);
-                return 1000 * target + move + 10 * (1 - target);
-            }
-            if (kind - 2 < ACTS.length) {
-                here.make(ACTS[kind - 2], first, second == 2 ? DIGIT + 1 : second);
-            }
-            return 1000 * target + move;
         }
     }
 }

@@ -152,6 +152,35 @@ public final class RulesTest {
         due.text("34: the code stays", Due.read(x), code);
     }
 
+    /** The answer is that of the code as it is now, however like the last one it may be. */
+    private static void oneAfterAnother() {
+        FewerSteps x = new FewerSteps();
+        String[] codes = {"a=+ab", "a=-ab", "b=-ab", "b=*ab", "a=mab", "a=*ab", "b=*ab", "a=*ab;b=*aa", "b=*aa"};
+        int[] wanted = {3, 3, 3, 3, 3, 3, 1, 2, 2};
+        int[] firsts = {201, 301, 1301, 1401, 501, 401, NONE, 401, 1400};
+        for (int n = 0; n < codes.length; n++) {
+            x.want(wanted[n]);
+            Due.code(x, codes[n]);
+            due.is("34: shortest(0) of " + codes[n] + " behind another code", x.shortest(0), firsts[n]);
+            x.image(0);
+            Due.code(x, "a=b");
+            x.want(1);
+            due.is("34: and of another one", x.shortest(0), 110);
+            x.restore(0);
+            due.is("34: and of the first again", x.shortest(0), firsts[n]);
+        }
+        String[] alike = {"a=+ab;b=0", "a=-ab;b=0", "a=0;b=*ab", "a=0;b=mab"};
+        for (String code : alike) {
+            FewerSteps fresh = Due.with(code);
+            fresh.want(3);
+            x.want(3);
+            Due.code(x, code);
+            for (int i = -1; i < 3; i++) {
+                due.is("34: shortest(" + i + ") of " + code + " behind a like one", x.shortest(i), fresh.shortest(i));
+            }
+        }
+    }
+
     private static void shortests() {
         shortest("", 3);
         shortest("", 1);
@@ -179,6 +208,7 @@ public final class RulesTest {
         due.is("34: d is wanted", x.shortest(99), STATE);
         x.want(1);
         due.is("34: as it was", x.shortest(-1), NONE);
+        oneAfterAnother();
         String[] others = {"a=c", "c=a", "a=+1d", "a=-d1", "d=0"};
         for (String other : others) {
             FewerSteps y = Due.with(other);
