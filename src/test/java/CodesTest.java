@@ -202,6 +202,12 @@ public final class CodesTest {
         due.is("10: in c", x.unlike(), 7 * 8);
         x.want(1);
         due.is("10: in a, other way", x.unlike(), 64);
+        Due.code(x, "a=0");
+        x.keep();
+        Due.code(x, "a=mcd;b=ma6;a=-ab");
+        due.is("10: where c and d are 7 alone", x.unlike(), 63);
+        Due.code(x, "a=mab;a=mac;a=mad;b=ma6;a=-ab");
+        due.is("10: in the last row alone", x.unlike(), 4095);
         Due.code(x, "b=7;a=*bb;b=0");
         x.keep();
         Due.code(x, "a=1;b=*a0");

@@ -111,5 +111,13 @@ public final class ValuesTest {
         spill("c=+aa;d=b", 12, 1, 2 + 16);
         spill("a=+ab;a=+ac;a=+ad", 1, 3, 1);
         spill("a=+ab;a=+ac;a=+ad", 1, 8, 0);
+        String[] codes = {"a=1;b=2;c=+ab;d=*cc", "a=+ab;c=d", "d=3;c=2;b=+cd;a=-bd"};
+        FewerSteps x = new FewerSteps();
+        for (String code : codes) {
+            Due.code(x, code);
+            for (int k = 1; k <= 4; k++) {
+                due.is("27: spill(" + k + ") of " + code + " behind other calls", x.spill(k), narrow(code, 15).spill(k));
+            }
+        }
     }
 }
