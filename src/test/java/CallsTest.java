@@ -31,11 +31,11 @@ public final class CallsTest {
             int which = random.nextInt(36);
             int one = number(random);
             int two = number(random);
-            String before = watched ? state(x) : "";
+            String before = watched ? Due.state(x) : "";
             int answer = call(x, which, one, two);
             boolean refused = answer <= -1 && answer >= -5;
             if (watched && (refused || isAsking(which))) {
-                due.text("seed " + seed + ": call " + which + " (" + one + ", " + two + ") answered " + answer + ": the state", state(x), before);
+                due.text("seed " + seed + ": call " + which + " (" + one + ", " + two + ") answered " + answer + ": the state", Due.state(x), before);
             }
             answers.append(answer).append(' ');
             calls++;
@@ -50,19 +50,6 @@ public final class CallsTest {
     /** Calls that change nothing even when they are not refused. */
     private static boolean isAsking(int which) {
         return which >= 14;
-    }
-
-    /** All that can be asked without changing anything. */
-    private static String state(FewerSteps x) {
-        StringBuilder text = new StringBuilder(Due.read(x));
-        for (int what = 0; what <= 9; what++) {
-            text.append(' ').append(x.told(what));
-        }
-        text.append(' ').append(x.fault(0)).append(' ').append(x.fault(1)).append(' ').append(x.unlike());
-        for (int n = 0; n < 4; n++) {
-            text.append(' ').append(x.holds(n)).append(' ').append(x.fits(n));
-        }
-        return text.toString();
     }
 
     private static int call(FewerSteps x, int which, int one, int two) {

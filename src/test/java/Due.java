@@ -27,6 +27,10 @@ final class Due {
         is(what, it ? 1 : 0, 1);
     }
 
+    int asked() {
+        return asked;
+    }
+
     void end() {
         System.out.println(asked + " answers, " + wrong + " of them wrong");
         if (wrong != 0 || asked == 0) {
@@ -45,6 +49,13 @@ final class Due {
     static FewerSteps with(String text) {
         FewerSteps x = new FewerSteps();
         code(x, text);
+        return x;
+    }
+
+    /** The same, with these registers wanted. */
+    static FewerSteps with(String text, int wanted) {
+        FewerSteps x = with(text);
+        x.want(wanted);
         return x;
     }
 
@@ -90,6 +101,19 @@ final class Due {
                     text.append((char) (operand >= 10 ? '0' + operand - 10 : 'a' + operand));
                 }
             }
+        }
+        return text.toString();
+    }
+
+    /** All that can be asked without changing anything. */
+    static String state(FewerSteps x) {
+        StringBuilder text = new StringBuilder(read(x));
+        for (int what = 0; what <= 9; what++) {
+            text.append(' ').append(x.told(what));
+        }
+        text.append(' ').append(x.fault(0)).append(' ').append(x.fault(1)).append(' ').append(x.unlike());
+        for (int n = 0; n < 4; n++) {
+            text.append(' ').append(x.holds(n)).append(' ').append(x.fits(n));
         }
         return text.toString();
     }

@@ -28,8 +28,20 @@ public final class FaceTest {
             int how = inside.getModifiers();
             due.holds(inside + " is static and not open", Modifier.isStatic(how) && !Modifier.isPublic(how) && !Modifier.isProtected(how));
         }
+        for (int promise = 1; promise <= 37; promise++) {
+            due.is("promise " + promise + " has a test", testsOf(promise), 1);
+        }
         due.holds("twelve classes at most", it.getDeclaredClasses().length < 12);
         due.end();
+    }
+
+    private static int testsOf(int promise) {
+        try {
+            Class.forName(String.format("Promise%02dTest", promise));
+            return 1;
+        } catch (ClassNotFoundException missing) {
+            return 0;
+        }
     }
 
     private static void methods(Class<?> it) {

@@ -35,38 +35,11 @@ public final class ModelTest {
         due.end();
     }
 
-    private static String drawStep(Random random, int registers, int digits) {
-        StringBuilder step = new StringBuilder().append((char) ('a' + random.nextInt(registers))).append('=');
-        int operands = random.nextInt(3) == 0 ? 1 : 2;
-        if (operands == 2) {
-            step.append("+-*m".charAt(random.nextInt(4)));
-        }
-        for (int k = 0; k < operands; k++) {
-            boolean digit = digits > 0 && random.nextInt(3) == 0;
-            step.append((char) (digit ? '0' + random.nextInt(digits) : 'a' + random.nextInt(registers)));
-        }
-        return step.toString();
-    }
-
-    private static List<String> draw(Random random, int least, int most, int registers) {
-        List<String> steps = new ArrayList<>();
-        int digits = new int[] {0, 2, 8}[random.nextInt(3)];
-        int many = least + random.nextInt(most - least + 1);
-        for (int i = 0; i < many; i++) {
-            steps.add(drawStep(random, registers, digits));
-        }
-        return steps;
-    }
-
-    private static String text(List<String> steps) {
-        return String.join(";", steps);
-    }
-
     private static void facts(Random random) {
-        List<String> steps = draw(random, 0, 12, 2 + random.nextInt(3));
+        List<String> steps = Draw.steps(random, 0, 12, 2 + random.nextInt(3));
         int wanted = 1 + random.nextInt(15);
-        String at = " of " + text(steps) + " wanted " + wanted;
-        FewerSteps x = Due.with(text(steps));
+        String at = " of " + Draw.text(steps) + " wanted " + wanted;
+        FewerSteps x = Due.with(Draw.text(steps));
         x.want(wanted);
         for (int n = 0; n < 5; n++) {
             int row = random.nextInt(4096);
@@ -87,15 +60,15 @@ public final class ModelTest {
         x.image(0);
         List<String> clean = Model.clean(steps, wanted);
         due.is("clean" + at, x.clean(), clean.size());
-        due.text("clean" + at, Due.read(x), text(clean));
+        due.text("clean" + at, Due.read(x), Draw.text(clean));
         due.is("unlike" + at, x.unlike(), NONE);
         for (int which = 1; which <= 4; which++) {
             x.restore(0);
             mend(x, steps, wanted, which);
         }
-        List<String> other = draw(random, 0, 4, 4);
-        Due.code(x, text(other));
-        due.is("unlike" + at + " and " + text(other), x.unlike(), Model.unlike(other, steps, wanted));
+        List<String> other = Draw.steps(random, 0, 4, 4);
+        Due.code(x, Draw.text(other));
+        due.is("unlike" + at + " and " + Draw.text(other), x.unlike(), Model.unlike(other, steps, wanted));
     }
 
     private static void mend(FewerSteps x, List<String> steps, int wanted, int which) {
@@ -104,9 +77,9 @@ public final class ModelTest {
         for (int i = 0; i < steps.size() && which < 4; i++) {
             changed += steps.get(i).equals(mended.get(i)) ? 0 : 1;
         }
-        String at = "mend(" + which + ") of " + text(steps) + " wanted " + wanted;
+        String at = "mend(" + which + ") of " + Draw.text(steps) + " wanted " + wanted;
         due.is(at, x.mend(which), which == 4 ? steps.size() - mended.size() : changed);
-        due.text(at, Due.read(x), text(mended));
+        due.text(at, Due.read(x), Draw.text(mended));
     }
 
     private static int[] drawSettings(Random random, FewerSteps x) {
@@ -118,10 +91,10 @@ public final class ModelTest {
     }
 
     private static void orders(Random random) {
-        List<String> steps = draw(random, 0, random.nextBoolean() ? 8 : 12, 4);
-        FewerSteps x = Due.with(text(steps));
+        List<String> steps = Draw.steps(random, 0, random.nextBoolean() ? 8 : 12, 4);
+        FewerSteps x = Due.with(Draw.text(steps));
         int[] settings = drawSettings(random, x);
-        String at = " of " + text(steps) + " by " + Arrays.toString(settings);
+        String at = " of " + Draw.text(steps) + " by " + Arrays.toString(settings);
         for (int i = 0; i < steps.size(); i++) {
             due.is("behind(" + i + ")" + at, x.behind(i), Model.behind(steps, i));
         }
@@ -143,11 +116,11 @@ public final class ModelTest {
     }
 
     private static void values(Random random) {
-        List<String> steps = draw(random, 0, 8, 4);
+        List<String> steps = Draw.steps(random, 0, 8, 4);
         int wanted = 1 + random.nextInt(15);
-        FewerSteps x = Due.with(text(steps));
+        FewerSteps x = Due.with(Draw.text(steps));
         x.want(wanted);
-        String at = " of " + text(steps) + " wanted " + wanted;
+        String at = " of " + Draw.text(steps) + " wanted " + wanted;
         int[] fewest = Model.fewest(steps, wanted);
         due.is("fewest(-1)" + at, x.fewest(-1), fewest[steps.size()]);
         for (int i = 0; i < steps.size(); i++) {
@@ -156,11 +129,11 @@ public final class ModelTest {
     }
 
     private static void spills(Random random) {
-        List<String> steps = draw(random, 0, 12, 4);
+        List<String> steps = Draw.steps(random, 0, 12, 4);
         int wanted = 1 + random.nextInt(15);
-        FewerSteps x = Due.with(text(steps));
+        FewerSteps x = Due.with(Draw.text(steps));
         x.want(wanted);
-        String at = " of " + text(steps) + " wanted " + wanted;
+        String at = " of " + Draw.text(steps) + " wanted " + wanted;
         for (int i = 0; i < steps.size(); i++) {
             for (int k = 0; k < 2; k++) {
                 due.is("reads(" + i + ", " + k + ")" + at, x.reads(i, k), Model.reads(steps, i, k));
@@ -178,26 +151,26 @@ public final class ModelTest {
 
     private static void rules(Random random) {
         int registers = 2 + random.nextInt(3);
-        List<String> steps = draw(random, 0, 12, registers);
-        FewerSteps x = Due.with(text(steps));
+        List<String> steps = Draw.steps(random, 0, 12, registers);
+        FewerSteps x = Due.with(Draw.text(steps));
         List<List<String>> lefts = new ArrayList<>();
         List<List<String>> rights = new ArrayList<>();
         int many = 1 + random.nextInt(4);
         for (int n = 0; n < many; n++) {
-            List<String> left = draw(random, 1, 3, 3);
+            List<String> left = Draw.steps(random, 1, 3, 3);
             if (!steps.isEmpty() && random.nextInt(4) > 0) {
                 int from = random.nextInt(steps.size());
                 int to = Math.min(steps.size(), from + 1 + random.nextInt(3));
                 left = Model.rename(steps.subList(from, to), Model.namings().get(random.nextInt(24)));
             }
-            List<String> right = draw(random, 0, 3, 4);
+            List<String> right = Draw.steps(random, 0, 3, 4);
             lefts.add(left);
             rights.add(right);
-            Due.rule(x, text(left) + ">" + text(right));
+            Due.rule(x, Draw.text(left) + ">" + Draw.text(right));
         }
         x.image(0);
         for (int n = 0; n < many; n++) {
-            String at = " of " + text(lefts.get(n)) + ">" + text(rights.get(n)) + " in " + text(steps);
+            String at = " of " + Draw.text(lefts.get(n)) + ">" + Draw.text(rights.get(n)) + " in " + Draw.text(steps);
             due.is("holds" + at, x.holds(n), Model.unlike(lefts.get(n), rights.get(n), 15) == NONE ? 1 : 0);
             int fits = Model.fits(steps, lefts.get(n));
             due.is("fits" + at, x.fits(n), fits);
@@ -208,21 +181,21 @@ public final class ModelTest {
                 due.is("replace" + at, x.replace(n), -4);
             } else {
                 due.is("replace" + at, x.replace(n), then);
-                due.text("replace" + at, Due.read(x), text(Model.replace(steps, lefts.get(n), rights.get(n))));
+                due.text("replace" + at, Due.read(x), Draw.text(Model.replace(steps, lefts.get(n), rights.get(n))));
                 x.restore(0);
             }
         }
         List<String> gone = Model.go(steps, lefts, rights);
-        String at = " of " + lefts + " " + rights + " in " + text(steps);
+        String at = " of " + lefts + " " + rights + " in " + Draw.text(steps);
         due.is("go" + at, x.go(), Integer.parseInt(gone.get(gone.size() - 1)));
-        due.text("go" + at, Due.read(x), text(gone.subList(0, gone.size() - 1)));
+        due.text("go" + at, Due.read(x), Draw.text(gone.subList(0, gone.size() - 1)));
     }
 
     private static void shortest(List<String> steps, int wanted) {
-        FewerSteps x = Due.with(text(steps));
+        FewerSteps x = Due.with(Draw.text(steps));
         x.want(wanted);
         List<Integer> moves = Model.shortest(steps, wanted);
-        String at = " of " + text(steps) + " wanted " + wanted;
+        String at = " of " + Draw.text(steps) + " wanted " + wanted;
         due.is("shortest(-1)" + at, x.shortest(-1), moves == null ? NONE : moves.size());
         for (int i = 0; i < 4; i++) {
             due.is("shortest(" + i + ")" + at, x.shortest(i), moves == null || i >= moves.size() ? NONE : moves.get(i));
@@ -230,7 +203,7 @@ public final class ModelTest {
     }
 
     private static void shortests(Random random) {
-        shortest(draw(random, 0, 4, 2), 1 + random.nextInt(3));
+        shortest(Draw.steps(random, 0, 4, 2), 1 + random.nextInt(3));
     }
 
     /** Codes that one or two moves can do, by way of longer ones. */
@@ -238,7 +211,7 @@ public final class ModelTest {
         List<String> steps = new ArrayList<>();
         int many = 1 + random.nextInt(2);
         for (int i = 0; i < many; i++) {
-            steps.add(drawStep(random, 2, 2));
+            steps.add(Draw.step(random, 2, 2));
         }
         steps.add("a=+a0");
         shortest(steps, 1 + random.nextInt(3));
