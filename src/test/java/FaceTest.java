@@ -20,6 +20,8 @@ public final class FaceTest {
         due.holds("the class is public and final", Modifier.isPublic(it.getModifiers()) && Modifier.isFinal(it.getModifiers()));
         methods(it);
         constants(it);
+        privateNames(it);
+        fieldsOf(it);
         Constructor<?>[] constructors = it.getDeclaredConstructors();
         due.is("constructors", constructors.length, 1);
         due.holds("the constructor is public", Modifier.isPublic(constructors[0].getModifiers()));
@@ -27,6 +29,9 @@ public final class FaceTest {
         for (Class<?> inside : it.getDeclaredClasses()) {
             int how = inside.getModifiers();
             due.holds(inside + " is static and not open", Modifier.isStatic(how) && !Modifier.isPublic(how) && !Modifier.isProtected(how));
+            due.is(inside + " has classes of its own", inside.getDeclaredClasses().length, 0);
+            privateNames(inside);
+            fieldsOf(inside);
         }
         for (int promise = 1; promise <= 37; promise++) {
             due.is("promise " + promise + " has a test", testsOf(promise), 1);
@@ -46,15 +51,9 @@ public final class FaceTest {
 
     private static void methods(Class<?> it) {
         Set<String> face = new TreeSet<>(Arrays.asList(METHODS.split(" ")));
-        Set<String> names = new HashSet<>();
         Set<String> open = new TreeSet<>();
-        for (String method : face) {
-            names.add(method.split("/")[0]);
-        }
         for (Method method : it.getDeclaredMethods()) {
-            if (Modifier.isPrivate(method.getModifiers())) {
-                due.holds(method + " bears no public name", !names.contains(method.getName()));
-            } else {
+            if (!Modifier.isPrivate(method.getModifiers())) {
                 boolean plain = method.getReturnType() == int.class && !Modifier.isStatic(method.getModifiers());
                 for (Class<?> parameter : method.getParameterTypes()) {
                     plain = plain && parameter == int.class;
@@ -66,15 +65,38 @@ public final class FaceTest {
         due.text("methods", open.toString(), face.toString());
     }
 
+    private static void privateNames(Class<?> it) {
+        Set<String> names = new HashSet<>();
+        for (String method : METHODS.split(" ")) {
+            names.add(method.split("/")[0]);
+        }
+        for (Method method : it.getDeclaredMethods()) {
+            boolean hidden = Modifier.isPrivate(method.getModifiers());
+            due.holds(method + " bears no public name", !hidden || !names.contains(method.getName()));
+        }
+    }
+
+    /** Static ones are constants; of the others there are some twenty at most. */
+    private static void fieldsOf(Class<?> it) {
+        String lawful = "int long boolean char java.lang.String int[] long[] char[] byte[]";
+        int own = 0;
+        for (Field field : it.getDeclaredFields()) {
+            if (Modifier.isStatic(field.getModifiers())) {
+                boolean kind = Arrays.asList(lawful.split(" ")).contains(field.getType().getTypeName());
+                due.holds(field + " is a constant", kind && Modifier.isFinal(field.getModifiers()));
+            } else {
+                due.holds(field + " is private", Modifier.isPrivate(field.getModifiers()));
+                own++;
+            }
+        }
+        due.holds(it + " has twenty fields at most: " + own, own <= 20);
+    }
+
     private static void constants(Class<?> it) throws Exception {
         String[] names = CONSTANTS.split(" ");
         Set<String> open = new TreeSet<>();
         for (Field field : it.getDeclaredFields()) {
-            int how = field.getModifiers();
-            if (Modifier.isStatic(how)) {
-                due.holds(field + " is final", Modifier.isFinal(how));
-            }
-            if (!Modifier.isPrivate(how)) {
+            if (!Modifier.isPrivate(field.getModifiers())) {
                 open.add(field.getName());
             }
         }

@@ -32,14 +32,18 @@ public final class LanguageTest {
     private static void methods(String text) {
         String[] lines = text.split("\n");
         int from = -1;
+        boolean constructor = false;
         int methods = 0;
         for (int n = 0; n < lines.length; n++) {
             Matcher head = Pattern.compile("^( {4}| {8})[\\w\\[\\] ]+\\((.*)\\) \\{$").matcher(lines[n]);
             if (head.find() && !lines[n].contains(" = ") && !lines[n].trim().startsWith("if") && !lines[n].trim().startsWith("for")) {
                 from = n;
+                constructor = head.group().matches(" +(public )?(FewerSteps|[A-Z]\\w*)\\(.*");
                 methods++;
                 due.holds("seven parameters at most: " + lines[n], head.group(2).split(",").length <= 7);
             }
+            boolean makes = from >= 0 && lines[n].contains("new ");
+            due.holds("no call makes an object: " + lines[n], !makes || constructor);
             if (from >= 0 && (lines[n].equals("    }") || lines[n].equals("        }"))) {
                 due.holds("sixty lines at most: " + lines[from], n - from < 60);
                 from = -1;

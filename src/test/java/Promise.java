@@ -9,6 +9,8 @@ import java.util.function.Supplier;
 
 /** What the tests of the promises share: each test says the document's sentence that its answers are held against. */
 abstract class Promise {
+    /** Begun with in place of a promise's number by the test of what stands ahead of all promises. */
+    static final int TERMS = 0;
     static final int UNKNOWN = -1, OUTSIDE = -2, STATE = -3, FULL = -4, NO = -5, NONE = -6;
     static final String TWELVE = "a=1;".repeat(11) + "a=1";
     static final String NINE = "a=1;".repeat(8) + "a=1";
@@ -47,8 +49,8 @@ abstract class Promise {
         }
     }
 
-    /** The terms and the promise's own section, in one line; null where the document does not stand. */
-    private static String readDocument() {
+    /** What stands ahead of the promises and the promise's own section, in one line; null where the document does not stand. */
+    static String readDocument() {
         if (!Files.exists(DOCUMENT)) {
             return null;
         }
@@ -58,9 +60,13 @@ abstract class Promise {
         } catch (IOException broken) {
             throw new IllegalStateException(broken);
         }
+        String terms = whole.substring(0, whole.indexOf("## Promise 1:"));
+        if (promise == TERMS) {
+            return terms;
+        }
         int own = whole.indexOf("## Promise " + promise + ":");
         int behind = whole.indexOf(" ## ", own + 1);
-        return whole.substring(0, whole.indexOf("## Promise 1:")) + whole.substring(own, behind);
+        return terms + whole.substring(own, behind);
     }
 
     /** What the promise's own section says and no test has said. */
@@ -114,7 +120,7 @@ abstract class Promise {
 
     static void end() {
         endSentence();
-        if (document != null) {
+        if (document != null && promise != TERMS) {
             due.text("promise " + promise + ": what was left untested", unsaid(), "");
         }
         due.end();

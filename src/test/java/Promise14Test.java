@@ -23,7 +23,7 @@ public final class Promise14Test extends Promise {
     }
 
     private static void atFirst() {
-        sentence("at first 0 to 3 in a to d");
+        sentence("SORT of a REGISTER: a number for what it holds: at first 0 to 3 in a to d");
         sorts("", 0, 1, 2, 3);
         for (int r = 0; r < 4; r++) {
             is("ahead of twelve steps", Due.with(TWELVE).sort(0, r), r);

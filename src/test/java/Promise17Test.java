@@ -18,7 +18,8 @@ public final class Promise17Test extends Promise {
     }
 
     private static void readsWhatThatOneMade() {
-        sentence("if it reads the TARGET of that (that reading comes of it: no other TARGET between)");
+        sentence("BEHIND: a STEP must stand behind an earlier one, if it reads the TARGET of that "
+                + "(that reading comes of it: no other TARGET between)");
         behind("a=1;b=a", 0, 1);
         behind("a=1;b=+ca", 0, 1);
         behind("a=1;b=2;c=+ab", 0, 0, 3);

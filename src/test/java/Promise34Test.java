@@ -25,7 +25,7 @@ public final class Promise34Test extends Promise {
     }
 
     private static void zeroToThreeSteps() {
-        sentence("the fewest STEPS (0 to 3)");
+        sentence("the fewest STEPS (0 to 3) of:");
         shortest("", 1);
         shortest("", 2);
         shortest("", 3);
